@@ -38,6 +38,12 @@ public final class KeepingTest {
             "crewOf(0, 1) -> 0, account(13) -> 0, inspectorOf(0, 2) -> 0, tie(0) -> 16, undo() -> 7",
             "storeyOf(0, 2) -> 16, account(9) -> 52, type \"g8;n30\" -> 6, script() -> 2, account(4) -> 0, undo() -> 7",
             "account(4) -> 1, account(15) -> 0, account(16) -> 0, work(true) -> 3, crewOf(0, 1) -> 0");
+        Notation.run("36 undo: each is undone to what stood just before",
+            "strips(1) -> 61, inspector(4) -> 0, strips(1) -> 62, inspector(5) -> 1, undo() -> 3, account(9) -> 62",
+            "account(12) -> 1, crew(1) -> 0, strips(1) -> 63, crew(2) -> 1, undo() -> 5, account(9) -> 63",
+            "account(7) -> 1, signal(1) -> 0, strips(1) -> 64, signal(2) -> 1, undo() -> 7, account(9) -> 64",
+            "account(1) -> 1, day(1) -> 0, strips(1) -> 65, day(1) -> 0, undo() -> 7, account(0) -> 1, account(9) -> 65",
+            "bundle(9, 1) -> 0, strips(1) -> 66, bundle(9, 2) -> 1, undo() -> 7, account(9) -> 66, account(2) -> 1");
         Notation.run("36 undo: a change by which nothing is different",
             "signal(0) -> 0, account(18) -> 1, undo() -> 0, account(1) -> 0");
     }
@@ -56,6 +62,11 @@ public final class KeepingTest {
             "signal(2) -> 0, save() -> 13, clear() -> 13, restore() -> 13, account(10) -> 15, account(1) -> 2",
             "account(5) -> 1, inspectorOf(0, 1) -> 1, account(11) -> 5, crew(1) -> 0, up(0, 0) -> REFUSED",
             "reason(1, true) -> 0, account(18) -> 1");
+        Notation.run("38 restore: all numbers of crews, inspectors and bundles",
+            "bundle(8, 7) -> 0, crew(3) -> 0, inspector(2) -> 0, inspector(7) -> 1, save() -> 0, clear() -> 0",
+            "bundle(9, 6) -> 0, crew(1) -> 0, inspector(4) -> 0, inspector(5) -> 1, restore() -> 0",
+            "bundleOf(0, false) -> 8, bundleOf(0, true) -> 7, crewOf(0, 0) -> 3, inspectorOf(0, 0) -> 2",
+            "inspectorOf(1, 0) -> 7, account(12) -> 2");
         Notation.run("38 restore: the input, the faults, the reasons and the line stay",
             "save() -> 0, type \"q\" -> 1, script() -> BAD, crew(1) -> 0, down(0) -> REFUSED, describe() -> 4",
             "type \"g5\" -> 2, restore() -> 0, account(17) -> 2, fault() -> 0, reason(0, false) -> 11, written(0) -> 98",

@@ -189,6 +189,9 @@ public final class TellingTest {
             "up(0, 0) -> 1, up(1, 1) -> 2, describe() -> 17");
         Notation.due("crews", Notation.writtenLine(tower), "1:6p3**w12 0:8p0*");
         Notation.go(tower, "30 describe", "describe() -> 17, clear() -> 25, written(0) -> 49, describe() -> 4, written(4) -> NONE");
+        tower = Notation.run("30 describe: one hour, ten hours, ten days", "bundle(30, 0) -> 0, build(0, 4, 1) -> 0",
+            "day(10) -> 0, build(0, 4, 10) -> 1, describe() -> 17");
+        Notation.due("one hour", Notation.writtenLine(tower), "1:4p0w10 0:4p10w1");
         tower = Notation.run("30 describe: all ten", "strips(99) -> *, bundle(30, 0) -> 0, bundle(30, 0) -> 1",
             "6 times build(0, 4, 40) -> *, 4 times build(1, 5, 9) -> *, 3 times day(30) -> *, 5 times crew(1) -> *",
             "describe() -> 95");

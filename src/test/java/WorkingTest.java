@@ -158,6 +158,12 @@ public final class WorkingTest {
             "bundle(30, 60) -> 0, inspector(9) -> 0, build(0, 4, 0) -> 0, day(12) -> 0, inspect(0, 0) -> 1",
             "inspectorOf(0, 1) -> 1, signal(8) -> 0, day(1) -> 1, inspectorOf(0, 1) -> 0, inspectorOf(0, 2) -> 1",
             "account(5) -> 0, signal(0) -> 8, build(0, 4, 0) -> 0, storeyOf(0, 5) -> 0, storeyOf(0, 2) -> 0");
+        Notation.run("15 day: nothing of what fell is left",
+            "bundle(30, 0) -> 0, bundle(30, 60) -> 1, build(0, 8, 0) -> 0, build(1, 4, 3) -> 1, lift(1, 3) -> 14",
+            "signal(8) -> 0, day(1) -> 1, wouldFall(8) -> NOTHING, weakest() -> 0, oldest(1) -> NONE, account(4) -> 1",
+            "signal(0) -> 8, highest() -> 0, strength(1, true) -> NONE, doneIn(1) -> NONE, oldIn(1) -> NONE",
+            "tie(1) -> NONE, lift(1, 1) -> NONE, build(1, 4, 9) -> 1, storeyOf(1, 4) -> 0, storeyOf(1, 3) -> 9",
+            "storeyOf(1, 2) -> 0, account(11) -> 0, work(true) -> 9");
     }
 
     private static void promise15Weeks() {
