@@ -1,16 +1,25 @@
 import java.lang.reflect.Method;
+import java.util.HashMap;
+import java.util.Map;
 import java.util.regex.Matcher;
 import java.util.regex.Pattern;
 
 /**
  * Runs of calls in the notation of the document: "bundle(30, 12) -> 0, append('b') -> 1, up(0, 0) -> REFUSED".
  * A text is put into the input, sign by sign, by: type "t0;n5" -> 5, with the answer to the last append.
- * A run that is repeated stands as: 8 times crew(1) -> *, where * stands for any answer.
+ * A run that is repeated stands as: 8 times crew(1) -> *, where * stands for any answer. Between calls there may stand:
+ * look, which remembers all that can be asked; same, if all but the reasons and the fault position must be as then;
+ * all same, if these must be too; and reads "1:4p0", for what must be the written line.
  */
 final class Notation {
     private static final Pattern CALL = Pattern.compile(
         "\\s*(?:(\\d+) times )?(?:type \"([^\"]*)\"|(\\w+)\\(((?:'.'|[^)'])*)\\))\\s*->\\s*([-\\w.]+|\\*)\\s*(?:,|$)");
+    private static final Pattern BETWEEN = Pattern.compile("\\s*(?:(look|same|all same)|reads \"([^\"]*)\")\\s*(?:,|$)");
+    /** No more is promised of an object. */
+    private static final int MOST_CALLS = 512;
 
+    private static final Map<BambooTower, Integer> MADE = new HashMap<>();
+    private static final Map<BambooTower, View> LOOKS = new HashMap<>();
     private static int calls = 0;
     private static int wrong = 0;
 
@@ -26,15 +35,23 @@ final class Notation {
 
     static void go(BambooTower tower, String title, String... parts) {
         for (String part : parts) {
-            Matcher matcher = CALL.matcher(part);
+            Matcher call = CALL.matcher(part);
+            Matcher between = BETWEEN.matcher(part);
             int end = 0;
             while (end < part.length()) {
-                if (!matcher.find(end) || matcher.start() != end) {
+                if (call.find(end) && call.start() == end) {
+                    call(tower, title, call);
+                    end = call.end();
+                } else if (between.find(end) && between.start() == end) {
+                    between(tower, title, between);
+                    end = between.end();
+                } else {
                     throw new IllegalArgumentException(title + ": what is meant by " + part.substring(end));
                 }
-                call(tower, title, matcher);
-                end = matcher.end();
             }
+        }
+        if (MADE.getOrDefault(tower, 0) > MOST_CALLS) {
+            fail(title + ": more than " + MOST_CALLS + " calls");
         }
     }
 
@@ -62,10 +79,17 @@ final class Notation {
 
     static String writtenLine(BambooTower tower) {
         StringBuilder line = new StringBuilder();
-        for (int i = 0; tower.written(i) != BambooTower.NONE; i++) {
-            line.append((char) tower.written(i));
+        int code = tower.written(0);
+        while (code != BambooTower.NONE && line.length() < MOST_CALLS) {
+            line.append((char) code);
+            code = tower.written(line.length());
         }
+        count(tower, line.length() + 1);
         return line.toString();
+    }
+
+    private static void count(BambooTower tower, int more) {
+        MADE.merge(tower, more, Integer::sum);
     }
 
     static void end(String test) {
@@ -73,6 +97,21 @@ final class Notation {
         if (wrong > 0 || calls == 0) {
             System.exit(1);
         }
+    }
+
+    private static void between(BambooTower tower, String title, Matcher matcher) {
+        String word = matcher.group(1);
+        if (word == null) {
+            due(title + ": the written line", writtenLine(tower), matcher.group(2));
+            return;
+        }
+        View view = new View(tower);
+        count(tower, view.calls());
+        if (word.equals("look")) {
+            LOOKS.put(tower, view);
+            return;
+        }
+        due(title + ": what is not as it was", view.differences(LOOKS.get(tower), word.equals("all same")), "");
     }
 
     private static void call(BambooTower tower, String title, Matcher matcher) {
@@ -88,6 +127,7 @@ final class Notation {
 
     private static double type(BambooTower tower, String text) {
         int length = 0;
+        count(tower, text.length());
         for (int i = 0; i < text.length(); i++) {
             length = tower.append(text.charAt(i));
         }
@@ -95,6 +135,7 @@ final class Notation {
     }
 
     private static double invoke(BambooTower tower, String name, String arguments) {
+        count(tower, 1);
         String[] words = arguments.isBlank() ? new String[0] : arguments.split(",\\s*(?!')");
         for (Method method : BambooTower.class.getMethods()) {
             if (method.getName().equals(name) && method.getParameterCount() == words.length) {
