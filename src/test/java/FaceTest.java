@@ -1,7 +1,6 @@
 import java.io.IOException;
 import java.lang.reflect.Constructor;
 import java.lang.reflect.Field;
-import java.lang.reflect.Member;
 import java.lang.reflect.Method;
 import java.lang.reflect.Modifier;
 import java.nio.file.Files;
@@ -27,6 +26,11 @@ public final class FaceTest {
     private static final String[] BANNED = {
         "\\bimport\\b", "\\bpackage\\b", "->", "::", "\\btry\\b", "\\bcatch\\b", "\\bfinally\\b", "\\bsynchronized\\b",
         "\\bassert\\b", "\\bthrows?\\b", "\\bprotected\\b", "\\bSystem\\.(?!arraycopy)", "\\b\\w+Exact\\b", "\\bstatic \\{"};
+
+    /** What the file may name of the library; its own classes are told by the text itself. */
+    private static final Set<String> LIBRARY = Set.of("String", "Math.min", "Math.max", "Integer.bitCount", "System.arraycopy");
+    private static final int MOST_PARAMETERS = 7;
+    private static final int MOST_LINES = 60;
 
     private FaceTest() {
     }
@@ -101,7 +105,10 @@ public final class FaceTest {
     }
 
     private static void noneNamed(Set<String> names, Class<?> owner, boolean isFace) {
-        for (Member method : owner.getDeclaredMethods()) {
+        for (Method method : owner.getDeclaredMethods()) {
+            if (method.getParameterCount() > MOST_PARAMETERS) {
+                Notation.fail(method + " has more than " + MOST_PARAMETERS + " parameters");
+            }
             if (names.contains(method.getName()) && !(isFace && Modifier.isPublic(method.getModifiers()))) {
                 Notation.fail(method + " bears the name of a public method");
             }
@@ -115,6 +122,8 @@ public final class FaceTest {
 
     private static void text(String source) {
         String bare = source.replaceAll("//[^\n]*", "");
+        library(bare.replaceAll("\"[^\"\n]*\"", "\"\""));
+        lengths(source);
         for (String banned : BANNED) {
             Matcher matcher = Pattern.compile(banned).matcher(bare);
             Notation.due("how often " + banned, matcher.results().count(), 0);
@@ -124,5 +133,31 @@ public final class FaceTest {
                 Notation.fail("a sign beyond 126 at " + i);
             }
         }
+    }
+
+    private static void library(String bare) {
+        Set<String> own = new TreeSet<>();
+        Pattern.compile("\\bclass (\\w+)").matcher(bare).results().forEach(found -> own.add(found.group(1)));
+        Set<String> foreign = new TreeSet<>();
+        Matcher name = Pattern.compile("\\b([A-Z]\\w*[a-z]\\w*)(\\.\\w+)?").matcher(bare);
+        while (name.find()) {
+            if (!own.contains(name.group(1)) && !LIBRARY.contains(name.group(1)) && !LIBRARY.contains(name.group())) {
+                foreign.add(name.group());
+            }
+        }
+        Notation.due("what is named of the library beyond " + LIBRARY, foreign.toString(), "[]");
+    }
+
+    private static void lengths(String source) {
+        Pattern method = Pattern.compile("(?m)^( +)(?:\\w[\\w\\[\\] ]* )?(\\w+)\\([^;{}]*\\) \\{\n(?:.*\n)*?\\1\\}");
+        Matcher found = method.matcher(source);
+        int methods = 0;
+        while (found.find()) {
+            methods++;
+            if (found.group().lines().count() > MOST_LINES) {
+                Notation.fail(found.group(2) + " has more than " + MOST_LINES + " lines");
+            }
+        }
+        Notation.due("methods were found", methods > METHODS.length ? 1 : 0, 1);
     }
 }

@@ -164,6 +164,12 @@ final class TellSentences {
             "strength(2, true) -> 0, day(30) -> 0, day(30) -> 0, strength(2, true) -> 0, strength(2, false) -> 0");
         promise(21, second, "bundle(30, 60) -> 0, build(0, 8, 0) -> 0, day(29) -> 0, strength(0, true) -> 5, day(20) -> 0",
             "strength(0, true) -> 1, day(1) -> 0, strength(0, true) -> 0, tie(0) -> 50, strength(0, true) -> 10");
+        String same = "or the same by a second way";
+        promise(21, same, "bundle(9, 7) -> 0, bundle(30, 44) -> 1, build(0, 7, 0) -> 0, build(1, 6, 0) -> 1, build(1, 5, 0) -> 2",
+            "strength(0, false) -> 18, strength(0, true) -> 18, strength(1, false) -> 11, strength(1, true) -> 11",
+            "strength(2, false) -> 9, strength(2, true) -> 9, signal(9) -> 0, day(1) -> 0, strength(2, false) -> 9",
+            "strength(2, true) -> 9, day(2) -> 1, strength(0, false) -> 16, strength(0, true) -> 16",
+            "strength(1, false) -> 9, strength(1, true) -> 9");
         promise(21, "`storey`: the storey", TEN, "strength(9, false) -> 12, strength(9, true) -> 12",
             "strength(0, false) -> 16");
         promise(21, "`isAgain`: true for the second way", "bundle(30, 59) -> 0, build(0, 8, 0) -> 0",
@@ -466,6 +472,10 @@ final class TellSentences {
         promise(32, words, "bundle(30, 60) -> 0, build(0, 4, 7) -> 0, crew(4) -> 0, up(0, 0) -> 1, lift(0, 1) -> 19",
             "day(1) -> 0, signal(8) -> 0, save() -> 1, day(1) -> 1, work(true) -> 0, signal(0) -> 8, build(0, 4, 5) -> 0",
             "work(true) -> 5, work(false) -> 5, restore() -> 1, work(true) -> 3");
+        promise(32, "or the same by a second way", busy, "lift(1, 9) -> 0, day(1) -> 0, up(0, 1) -> 1, day(1) -> 0",
+            "work(false) -> 10, work(true) -> 10, save() -> 2, signal(9) -> 0, day(1) -> 1, work(false) -> 7",
+            "work(true) -> 7, restore() -> 2, work(false) -> 10, work(true) -> 10, day(1) -> 0, work(false) -> 7",
+            "work(true) -> 7");
         promise(32, "`isAgain`: true for the second way", busy, "day(2) -> 0, signal(9) -> 0, day(30) -> 2",
             "work(true) -> 0, work(false) -> 0");
         promise(32, "Returns the hours", ONE, "work(false) -> 9, work(true) -> 9");

@@ -117,6 +117,11 @@ final class TermsSentences {
     }
 
     private static void strengths() {
+        terms("21", "A storey is strong by what one of its poles is",
+            "bundle(4, 0) -> 0, bundle(4, 36) -> 1, build(0, 4, 0) -> 0, build(1, 4, 0) -> 1, strength(0, false) -> 16",
+            "strength(1, false) -> 10, strength(0, true) -> 16, strength(1, true) -> 10, day(7) -> 0, tie(0) -> 7",
+            "tie(1) -> 7, strength(1, false) -> 10, 5 times day(7) -> 0, tie(0) -> 35, tie(1) -> 35, storeyOf(0, 1) -> 6",
+            "strength(0, false) -> 15, strength(1, false) -> 9, strength(0, true) -> 15, strength(1, true) -> 9");
         terms("21", "and 1 more for each of its poles", "bundle(30, 0) -> 0, build(0, 4, 0) -> 0, build(0, 8, 0) -> 1",
             "strength(0, false) -> 16, strength(1, false) -> 20, strength(0, true) -> 16, strength(1, true) -> 20");
         terms("21", "less a fifth of the age of its tie",

@@ -55,11 +55,12 @@ final class TextSentences {
     }
 
     private static void forms() {
-        String script = "`script = order {";
+        String script = "`script = order { \";\" order`}";
         taken(script, "g1", 1);
         taken(script, "g1;g2", 2);
-        taken("braces mean repetition", "g1;g2;g1", 3);
-        taken("braces mean repetition", "g0;g0;g0;g0;g0;g0;g0;g0;g0;g0;g0;g0;g0;g0;g0;g0;g0;g0;g0;g00", 20);
+        read("Its grammar is as follows, with terminals in quotes", "b0*4:0;t0;u0@0;d0;l0*1;g1;i0@0;n1");
+        taken("where braces mean repetition", "g1;g2;g1", 3);
+        taken("where braces mean repetition", "g0;g0;g0;g0;g0;g0;g0;g0;g0;g0;g0;g0;g0;g0;g0;g0;g0;g0;g0;g00", 20);
         taken("brackets an optional part", "n1", 1);
         taken("brackets an optional part", "n10", 1);
         taken("`number = digit [ digit ]`", "g0", 1);
@@ -85,7 +86,7 @@ final class TextSentences {
     }
 
     private static void faultsOfForms() {
-        String script = "`script = order {";
+        String script = "`script = order { \";\" order`}";
         faulty(script, "g1;", 3);
         faulty(script, ";g1", 0);
         faulty(script, "g1;;g1", 3);
@@ -286,7 +287,8 @@ final class TextSentences {
     }
 
     private static void reasonsInOrder() {
-        String words = "Something is refused for the first that applies of the reasons that its method names";
+        String words = "Something is refused for the first that applies of the reasons that its method names,"
+            + " in the order in which it names them, with a detail";
         String ten = "strips(99) -> *, bundle(30, 0) -> 0, bundle(30, 0) -> 1, 6 times build(0, 4, 0) -> *, 3 times build(1, 8, 0) -> *";
         terms("6, 1 before 4, 2 and 3", words, ten, "bundle(3, 0) -> 2, build(0, 5, 0) -> 9, signal(3) -> 0",
             "build(2, 4, 0) -> REFUSED, reason(0, false) -> 1, signal(0) -> 3, build(2, 4, 0) -> REFUSED",
